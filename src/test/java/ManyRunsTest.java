@@ -4,7 +4,7 @@ import java.util.Random;
 
 /** Compares the program with the plain reference on many runs of calls: promises 1 to 21, wrong inputs among them. */
 final class ManyRunsTest {
-    private static final int RUNS = 400;
+    private static final int RUNS = 300;
     private static final int CALLS = 120;
 
     private MountainPost post = new MountainPost();
@@ -38,7 +38,7 @@ final class ManyRunsTest {
 
     /** Few stations with many roads, mules and letters between them, so that letters meet, cross and are recalled. */
     private void settle() {
-        int stations = 2 + random.nextInt(9);
+        int stations = 2 + random.nextInt(random.nextBoolean() ? 2 : 9);
         for (int i = 0; i < stations; i++) {
             int height = random.nextInt(random.nextBoolean() ? 4001 : 900);
             same("addStation", () -> post.addStation(height), () -> reference.addStation(height));
@@ -78,7 +78,8 @@ final class ManyRunsTest {
         boolean yes = random.nextBoolean();
         switch (kind) {
             case 0: {
-                int height = random.nextInt(9) - 2 == 0 ? number(4001) : -1;
+                // Mostly a wrong one: otherwise all runs would soon have ten stations.
+                int height = random.nextInt(9) == 0 ? number(4001) : -1;
                 return same("addStation(" + height + ")",
                     () -> post.addStation(height), () -> reference.addStation(height));
             }

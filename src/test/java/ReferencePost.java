@@ -293,7 +293,9 @@ final class ReferencePost {
     int arrives(int letter) {
         bounds(0 <= letter && letter < letters.size());
         ReferencePost c = copy();
-        c.run(300);
+        for (int h = 0; h < 300 && c.letters.get(letter).ended == -1; h++) {
+            c.run(1);
+        }
         return c.letters.get(letter).ended;
     }
 
