@@ -17,7 +17,7 @@ final class AheadTest {
     }
 
     private static void foresees() {
-        MountainPost p = twoStations(3);
+        MountainPost p = Posts.road(3);
         Check.outOfBounds("foresee(0, 0) of none", () -> p.foresee(0, 0));
         p.addMule(0, 1, false);
         p.post(0, 1, 0);
@@ -38,7 +38,7 @@ final class AheadTest {
     }
 
     private static void arrivesInTime() {
-        MountainPost p = twoStations(3);
+        MountainPost p = Posts.road(3);
         Check.outOfBounds("arrives(0) of none", () -> p.arrives(0));
         p.pass(10);
         p.post(0, 1, 0);
@@ -58,7 +58,7 @@ final class AheadTest {
 
     /** A mule of load 1 on a road of 5 hours brings letter n in hour 5 + 10 n: letter 29 in hour 295, 30 in 305. */
     private static void arrivesAtTheLastHour() {
-        MountainPost p = twoStations(5);
+        MountainPost p = Posts.road(5);
         p.addMule(0, 1, false);
         for (int i = 0; i < 31; i++) {
             p.post(0, 1, 0);
@@ -100,7 +100,7 @@ final class AheadTest {
     }
 
     private static void advisesTheSmallestOfSeveral() {
-        MountainPost p = twoStations(2);
+        MountainPost p = Posts.road(2);
         p.build(0, 1, 1);
         p.build(1, 0, 1);
         for (int i = 0; i < 7; i++) {
@@ -114,7 +114,7 @@ final class AheadTest {
     private static void advisesNone() {
         MountainPost p = new MountainPost();
         Check.due("advise(5) without roads", -1, () -> p.advise(5));
-        MountainPost q = twoStations(2);
+        MountainPost q = Posts.road(2);
         q.addMule(0, 6, false);
         Check.due("advise(50) without letters", -1, () -> q.advise(50));
         q.post(0, 1, 0);
@@ -124,7 +124,7 @@ final class AheadTest {
     }
 
     private static void lookingAheadChangesNothing() {
-        MountainPost p = twoStations(2);
+        MountainPost p = Posts.road(2);
         p.addMule(0, 1, true);
         p.post(0, 1, 0);
         p.post(1, 0, 0);
@@ -140,7 +140,7 @@ final class AheadTest {
     }
 
     private static void means() {
-        MountainPost p = twoStations(1);
+        MountainPost p = Posts.road(1);
         p.addMule(0, 1, false);
         Check.due("mean() of none", 0.0, p::mean);
         p.pass(9);
@@ -164,7 +164,7 @@ final class AheadTest {
             d *= 31;
         }
         Check.due("digest() of a new one", d, p::digest);
-        MountainPost q = twoStations(4);
+        MountainPost q = Posts.road(4);
         q.addMule(0, 3, false);
         q.setFog(1, true);
         q.setSight(0, 1, true);
@@ -172,7 +172,7 @@ final class AheadTest {
         q.recall(0);
         int[] numbers = {
             0, 2, 1, 1, 1, 1, 0, 0, 0, 0,
-            0, 0, 1, 1, 0, 0, 1, 0, 1, 1,
+            100, 0, 1, 1, 0, 100, 1, 0, 1, 1,
             0, 1, 4, 4, 1, 0,
             0, 3, 0, 0, 0, 0,
             1, 0, 7, 0, 1, -1, 1, 0, 0, -1, 1
@@ -183,13 +183,5 @@ final class AheadTest {
         }
         long want = due;
         Check.due("digest() of one with a letter", want, q::digest);
-    }
-
-    private static MountainPost twoStations(int length) {
-        MountainPost p = new MountainPost();
-        p.addStation(0);
-        p.addStation(0);
-        p.build(0, 1, length);
-        return p;
     }
 }

@@ -1,6 +1,7 @@
 /** Counts the answers of a test that are not as due, and ends it. */
 final class Check {
     private static int wrong = 0;
+    private static String sentence = "";
 
     private Check() {
     }
@@ -10,12 +11,22 @@ final class Check {
         Object answer();
     }
 
+    /** Begins the test of a sentence of the document: a wrong answer below is told with these words. */
+    static void sentence(String words) {
+        sentence = "\"" + words + "\": ";
+    }
+
+    /** Numbers that are too small or too large, next to the least and the greatest one and as far off as can be. */
+    static int[] outside(int least, int greatest) {
+        return new int[] {Integer.MIN_VALUE, least - 1, greatest + 1, Integer.MAX_VALUE};
+    }
+
     /** Compares what a call answers; a value is compared by its text, so that 3 and 3L are the same. */
     static void due(String call, Object want, Call made) {
         String got = outcome(made);
         if (!got.equals(String.valueOf(want))) {
             wrong++;
-            System.out.println(call + " answered " + got + ", due is " + want);
+            System.out.println(sentence + call + " answered " + got + ", due is " + want);
         }
     }
 

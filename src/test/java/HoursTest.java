@@ -19,7 +19,7 @@ final class HoursTest {
     }
 
     private static void wrongHours() {
-        MountainPost p = stations(2);
+        MountainPost p = Posts.level(2);
         Check.wrongArgument("pass(0)", () -> p.pass(0));
         Check.wrongArgument("pass(-1)", () -> p.pass(-1));
         Check.wrongArgument("pass(101)", () -> p.pass(101));
@@ -32,7 +32,7 @@ final class HoursTest {
     }
 
     private static void comeNotBack() {
-        MountainPost p = stations(2);
+        MountainPost p = Posts.level(2);
         p.build(0, 1, 1);
         p.addMule(0, 6, false);
         p.post(0, 1, 0);
@@ -47,7 +47,7 @@ final class HoursTest {
     }
 
     private static void mostUrgentFirst() {
-        MountainPost p = stations(2);
+        MountainPost p = Posts.level(2);
         p.build(0, 1, 1);
         p.addMule(0, 2, false);
         int[] urgencies = {3, 5, 0, 5, 9, 5};
@@ -63,7 +63,7 @@ final class HoursTest {
     }
 
     private static void muleComesForALetter() {
-        MountainPost p = stations(3);
+        MountainPost p = Posts.level(3);
         p.build(0, 1, 3);
         p.build(1, 2, 3);
         p.addMule(0, 1, false);
@@ -83,7 +83,7 @@ final class HoursTest {
 
     /** Mule 0 has a reason to set out, as the letter still waits; mule 2 has none any more. */
     private static void mulesOneAfterTheOther() {
-        MountainPost p = stations(2);
+        MountainPost p = Posts.level(2);
         p.build(0, 1, 2);
         p.addMule(0, 1, false);
         p.addMule(0, 1, true);
@@ -97,7 +97,7 @@ final class HoursTest {
     }
 
     private static void crossesInTheSameHour() {
-        MountainPost p = stations(2);
+        MountainPost p = Posts.level(2);
         p.build(0, 1, 5);
         p.addMule(0, 6, false);
         p.addMule(0, 6, true);
@@ -116,7 +116,7 @@ final class HoursTest {
     private static void crossesWithOneAhead() {
         for (int wait = 1; wait <= 4; wait++) {
             int hour = wait;
-            MountainPost p = stations(2);
+            MountainPost p = Posts.level(2);
             p.build(0, 1, 3);
             p.addMule(0, 6, true);
             p.addMule(0, 6, false);
@@ -134,7 +134,7 @@ final class HoursTest {
     }
 
     private static void crossesOnlyAnswers() {
-        MountainPost p = stations(3);
+        MountainPost p = Posts.level(3);
         p.build(0, 1, 3);
         p.build(1, 2, 3);
         p.addMule(0, 6, false);
@@ -154,7 +154,7 @@ final class HoursTest {
     }
 
     private static void noCrossInTheSameDirectionOrOnAnotherRoad() {
-        MountainPost p = stations(2);
+        MountainPost p = Posts.level(2);
         p.build(0, 1, 2);
         p.build(0, 1, 2);
         p.addMule(1, 6, true);
@@ -172,7 +172,7 @@ final class HoursTest {
 
     /** Two answers cross on the middle road, are turned at its ends, and cross there once more. */
     private static void turnedLettersCrossToo() {
-        MountainPost p = stations(4);
+        MountainPost p = Posts.level(4);
         for (int road = 0; road < 3; road++) {
             p.build(road, road + 1, 2);
         }
@@ -198,7 +198,7 @@ final class HoursTest {
     }
 
     private static void counts() {
-        MountainPost p = stations(3);
+        MountainPost p = Posts.level(3);
         p.build(0, 1, 2);
         p.addMule(0, 1, false);
         p.post(0, 1, 1);
@@ -221,13 +221,5 @@ final class HoursTest {
             int w = what;
             Check.due("count(" + w + ") at hour " + due[0], due[w], () -> p.count(w));
         }
-    }
-
-    private static MountainPost stations(int number) {
-        MountainPost p = new MountainPost();
-        for (int i = 0; i < number; i++) {
-            p.addStation(100);
-        }
-        return p;
     }
 }

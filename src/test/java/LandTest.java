@@ -50,7 +50,7 @@ final class LandTest {
     }
 
     private static void heights() {
-        MountainPost p = post(0, 4000, 17);
+        MountainPost p = Posts.heights(0, 4000, 17);
         Check.due("station(0, 0)", 0, () -> p.station(0, 0));
         Check.due("station(1, 0)", 4000, () -> p.station(1, 0));
         Check.due("station(2, 0)", 17, () -> p.station(2, 0));
@@ -65,7 +65,7 @@ final class LandTest {
     }
 
     private static void sight() {
-        MountainPost p = post(0, 0, 0, 0);
+        MountainPost p = Posts.heights(0, 0, 0, 0);
         Check.due("setSight(0, 1, true)", 1, () -> p.setSight(0, 1, true));
         Check.due("setSight(0, 1, true) again", 1, () -> p.setSight(0, 1, true));
         Check.due("setSight(2, 1, true)", 1, () -> p.setSight(2, 1, true));
@@ -84,7 +84,7 @@ final class LandTest {
     }
 
     private static void fog() {
-        MountainPost p = post(0, 0, 0);
+        MountainPost p = Posts.heights(0, 0, 0);
         Check.due("setFog(0, false)", 0, () -> p.setFog(0, false));
         Check.due("setFog(1, true)", 1, () -> p.setFog(1, true));
         Check.due("setFog(1, true) again", 1, () -> p.setFog(1, true));
@@ -98,7 +98,7 @@ final class LandTest {
     }
 
     private static void roads() {
-        MountainPost p = post(0, 0);
+        MountainPost p = Posts.heights(0, 0);
         Check.outOfBounds("build(0, 2, 1)", () -> p.build(0, 2, 1));
         Check.outOfBounds("build(-1, 0, 0)", () -> p.build(-1, 0, 0));
         Check.outOfBounds("build(2, 2, 1)", () -> p.build(2, 2, 1));
@@ -122,7 +122,7 @@ final class LandTest {
     }
 
     private static void hoursOfRoads() {
-        MountainPost p = post(0, 199, 200, 4000, 3401);
+        MountainPost p = Posts.heights(0, 199, 200, 4000, 3401);
         p.build(0, 1, 3);
         p.build(2, 0, 3);
         p.build(0, 3, 20);
@@ -137,7 +137,7 @@ final class LandTest {
     }
 
     private static void mules() {
-        MountainPost p = post(0, 0);
+        MountainPost p = Posts.heights(0, 0);
         Check.outOfBounds("addMule(0, 1, true)", () -> p.addMule(0, 1, true));
         p.build(0, 1, 1);
         Check.outOfBounds("addMule(1, 9, true)", () -> p.addMule(1, 9, true));
@@ -159,7 +159,7 @@ final class LandTest {
     }
 
     private static void whatMulesTell() {
-        MountainPost p = post(0, 400);
+        MountainPost p = Posts.heights(0, 400);
         p.build(0, 1, 3);
         p.build(0, 1, 20);
         p.addMule(1, 1, true);
@@ -195,7 +195,7 @@ final class LandTest {
     }
 
     private static void wrongCallsChangeNothing() {
-        MountainPost p = post(0, 300, 900);
+        MountainPost p = Posts.heights(0, 300, 900);
         p.build(0, 1, 1);
         p.addMule(0, 1, false);
         long before = p.digest();
@@ -206,13 +206,5 @@ final class LandTest {
         Check.wrongArgument("build(0, 2, 30)", () -> p.build(0, 2, 30));
         Check.wrongArgument("addMule(0, 7, false)", () -> p.addMule(0, 7, false));
         Check.due("digest()", before, p::digest);
-    }
-
-    private static MountainPost post(int... heights) {
-        MountainPost p = new MountainPost();
-        for (int height : heights) {
-            p.addStation(height);
-        }
-        return p;
     }
 }

@@ -20,7 +20,7 @@ final class LettersTest {
     }
 
     private static void posting() {
-        MountainPost p = line(3);
+        MountainPost p = Posts.line(3);
         Check.outOfBounds("post(0, 3, 1)", () -> p.post(0, 3, 1));
         Check.outOfBounds("post(-1, 0, 1)", () -> p.post(-1, 0, 1));
         Check.outOfBounds("post(3, 3, 10)", () -> p.post(3, 3, 10));
@@ -35,7 +35,7 @@ final class LettersTest {
     }
 
     private static void sixtyLetters() {
-        MountainPost p = line(2);
+        MountainPost p = Posts.line(2);
         for (int i = 0; i < 60; i++) {
             int number = i;
             Check.due("post", number, () -> p.post(number % 2, 1 - number % 2, number % 10));
@@ -50,7 +50,7 @@ final class LettersTest {
     }
 
     private static void whatALetterTells() {
-        MountainPost p = line(3);
+        MountainPost p = Posts.line(3);
         p.pass(7);
         p.post(0, 2, 4);
         tells(p, 0, 0, 2, 4, 0, 0, -1, 0, 0, 7, -1, 0);
@@ -67,7 +67,7 @@ final class LettersTest {
     }
 
     private static void recallWhereItCameFrom() {
-        MountainPost p = line(3);
+        MountainPost p = Posts.line(3);
         p.setFog(0, true);
         p.post(0, 2, 4);
         Check.due("recall(0) in fog", 0, () -> p.recall(0));
@@ -80,8 +80,8 @@ final class LettersTest {
 
     /** The letter is a station ahead of the fire, which sees it turn where it next waits. */
     private static void recallOnTheWay() {
-        MountainPost p = line(4);
-        chainOfSight(p, 4);
+        MountainPost p = Posts.line(4);
+        Posts.chainOfSight(p, 4);
         p.post(0, 3, 0);
         p.pass(1);
         Check.due("recall(0)", 3, () -> p.recall(0));
@@ -99,8 +99,8 @@ final class LettersTest {
 
     /** Fog at the one that knows holds the fire back, fog at the other one too; it goes on when the fog goes. */
     private static void recallFollowsFog() {
-        MountainPost p = bare(3);
-        chainOfSight(p, 3);
+        MountainPost p = Posts.level(3);
+        Posts.chainOfSight(p, 3);
         p.post(0, 1, 0);
         p.setFog(1, true);
         Check.due("recall(0) ahead of fog", 0, () -> p.recall(0));
@@ -119,8 +119,8 @@ final class LettersTest {
     }
 
     private static void firesGoOnForEndedLetters() {
-        MountainPost p = bare(4);
-        chainOfSight(p, 4);
+        MountainPost p = Posts.level(4);
+        Posts.chainOfSight(p, 4);
         p.post(0, 3, 0);
         p.recall(0);
         p.pass(1);
@@ -131,7 +131,7 @@ final class LettersTest {
     }
 
     private static void recallCountsOtherStations() {
-        MountainPost p = bare(5);
+        MountainPost p = Posts.level(5);
         p.setSight(0, 1, true);
         p.setSight(1, 2, true);
         p.setSight(3, 4, true);
@@ -148,7 +148,7 @@ final class LettersTest {
     }
 
     private static void recallOfNoUse() {
-        MountainPost p = line(2);
+        MountainPost p = Posts.line(2);
         Check.outOfBounds("recall(0) of none", () -> p.recall(0));
         p.post(0, 1, 0);
         Check.outOfBounds("recall(1)", () -> p.recall(1));
@@ -168,7 +168,7 @@ final class LettersTest {
     }
 
     private static void onlyWhereTheRecallIsKnown() {
-        MountainPost p = bare(3);
+        MountainPost p = Posts.level(3);
         p.build(0, 1, 2);
         p.addMule(0, 1, false);
         p.build(1, 2, 2);
@@ -188,7 +188,7 @@ final class LettersTest {
     }
 
     private static void aComeLetterStaysWhereItIs() {
-        MountainPost p = line(2);
+        MountainPost p = Posts.line(2);
         p.post(0, 1, 0);
         p.pass(1);
         p.recall(0);
@@ -201,7 +201,7 @@ final class LettersTest {
 
     /** A letter turned far from home is carried through the station to which it was to go, and waits there. */
     private static void aTurnedLetterPassesItsGoal() {
-        MountainPost p = bare(3);
+        MountainPost p = Posts.level(3);
         p.build(0, 1, 9);
         p.build(1, 2, 1);
         p.build(2, 0, 1);
@@ -227,30 +227,6 @@ final class LettersTest {
         for (int what = 0; what < due.length; what++) {
             int w = what;
             Check.due("letter(" + letter + ", " + w + ") at hour " + p.count(0), due[w], () -> p.letter(letter, w));
-        }
-    }
-
-    private static MountainPost bare(int stations) {
-        MountainPost p = new MountainPost();
-        for (int i = 0; i < stations; i++) {
-            p.addStation(100);
-        }
-        return p;
-    }
-
-    /** Stations in a line, two hours between each, with a mule of load 6 at the near end of each road. */
-    private static MountainPost line(int stations) {
-        MountainPost p = bare(stations);
-        for (int i = 0; i + 1 < stations; i++) {
-            p.build(i, i + 1, 2);
-            p.addMule(i, 6, false);
-        }
-        return p;
-    }
-
-    private static void chainOfSight(MountainPost p, int stations) {
-        for (int i = 0; i + 1 < stations; i++) {
-            p.setSight(i, i + 1, true);
         }
     }
 }

@@ -17,7 +17,7 @@ final class WaysTest {
     }
 
     private static void onlyRoadsWithMulesCount() {
-        MountainPost p = stations(0, 0, 0);
+        MountainPost p = Posts.heights(0, 0, 0);
         p.build(0, 1, 5);
         way(p, 0, 1, -1, -1);
         way(p, 1, 1, 0, -1);
@@ -31,7 +31,7 @@ final class WaysTest {
 
     /** Uphill the long road round the peak is shorter, downhill the direct one. */
     private static void uphillIsLonger() {
-        MountainPost p = stations(0, 4000, 0, 4000);
+        MountainPost p = Posts.heights(0, 4000, 0, 4000);
         p.build(0, 1, 1);
         p.build(1, 2, 1);
         p.build(0, 2, 4);
@@ -47,7 +47,7 @@ final class WaysTest {
     }
 
     private static void smallestFirstRoad() {
-        MountainPost p = stations(0, 0, 0, 0);
+        MountainPost p = Posts.heights(0, 0, 0, 0);
         p.build(2, 3, 1);
         p.build(0, 2, 3);
         p.build(1, 3, 2);
@@ -64,7 +64,7 @@ final class WaysTest {
     }
 
     private static void aShorterWayComesLater() {
-        MountainPost p = stations(0, 0, 0);
+        MountainPost p = Posts.heights(0, 0, 0);
         p.build(0, 2, 9);
         p.build(0, 1, 2);
         p.build(1, 2, 2);
@@ -80,7 +80,7 @@ final class WaysTest {
     }
 
     private static void wrongWays() {
-        MountainPost p = stations(0, 0);
+        MountainPost p = Posts.heights(0, 0);
         Check.outOfBounds("way(0, 2, 0)", () -> p.way(0, 2, 0));
         Check.outOfBounds("way(-1, 0, 0)", () -> p.way(-1, 0, 0));
         Check.outOfBounds("way(2, 2, 0)", () -> p.way(2, 2, 0));
@@ -95,7 +95,7 @@ final class WaysTest {
     }
 
     private static void fires() {
-        MountainPost p = stations(0, 0, 0, 0, 0);
+        MountainPost p = Posts.heights(0, 0, 0, 0, 0);
         p.setSight(0, 1, true);
         p.setSight(1, 2, true);
         p.setSight(2, 3, true);
@@ -111,7 +111,7 @@ final class WaysTest {
     }
 
     private static void firesInFog() {
-        MountainPost p = stations(0, 0, 0);
+        MountainPost p = Posts.heights(0, 0, 0);
         p.setSight(0, 1, true);
         p.setSight(1, 2, true);
         p.setFog(1, true);
@@ -126,7 +126,7 @@ final class WaysTest {
     }
 
     private static void fireThroughTenStations() {
-        MountainPost p = stations(0, 0, 0, 0, 0, 0, 0, 0, 0, 0);
+        MountainPost p = Posts.heights(0, 0, 0, 0, 0, 0, 0, 0, 0, 0);
         for (int s = 0; s < 9; s++) {
             p.setSight(s, s + 1, true);
         }
@@ -137,7 +137,7 @@ final class WaysTest {
     }
 
     private static void wrongFires() {
-        MountainPost p = stations(0, 0);
+        MountainPost p = Posts.heights(0, 0);
         Check.outOfBounds("fire(0, 2)", () -> p.fire(0, 2));
         Check.outOfBounds("fire(2, 2)", () -> p.fire(2, 2));
         Check.outOfBounds("fire(-1, 0)", () -> p.fire(-1, 0));
@@ -145,13 +145,5 @@ final class WaysTest {
 
     private static void fire(MountainPost p, int from, int to, int due) {
         Check.due("fire(" + from + ", " + to + ")", due, () -> p.fire(from, to));
-    }
-
-    private static MountainPost stations(int... heights) {
-        MountainPost p = new MountainPost();
-        for (int height : heights) {
-            p.addStation(height);
-        }
-        return p;
     }
 }
