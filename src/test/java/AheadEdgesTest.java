@@ -1,4 +1,6 @@
 import java.math.BigInteger;
+import java.util.ArrayList;
+import java.util.List;
 
 /** Promises 17 to 21: each sentence of the document that names a boundary case has a test here. */
 final class AheadEdgesTest {
@@ -11,12 +13,14 @@ final class AheadEdgesTest {
         noHourToForesee();
         threeHundredHoursToForesee();
         ifNothingElseIsDone();
+        foreseenIsWhatWillBe();
         foreseeingChangesNothing();
         arrivalOfNoLetter();
         comesInAtMost300Hours();
         backInAtMost300Hours();
         theHourInWhichItDid();
         itWillNotCome();
+        arrivalIsWhatWillBe();
         arrivingChangesNothing();
         hoursToAdvise();
         anHourToAdvise();
@@ -29,6 +33,7 @@ final class AheadEdgesTest {
         notMoreThanWithoutIt();
         fewerThanWithoutIt();
         adviseWhereNothingIs();
+        adviceIsWhatWouldBe();
         advisingChangesNothing();
         theMeanOfNone();
         theMeanIsOfThoseThatHaveCome();
@@ -98,6 +103,27 @@ final class AheadEdgesTest {
         Check.due("foresee(0, 3)", 2, () -> p.foresee(0, 3));
         p.recall(0);
         Check.due("foresee(0, 3) of a recalled one", 3, () -> p.foresee(0, 3));
+    }
+
+    private static void foreseenIsWhatWillBe() {
+        Check.sentence("Returns its state behind so many hours, if nothing else is done");
+        MountainPost p = Posts.inTheMidst(12);
+        for (int state = 0; state <= 3; state++) {
+            int what = 5 + state;
+            Check.due("there are letters in the state " + state, true, () -> p.count(what) > 0);
+        }
+        Check.due("letters have crossed", true, () -> p.count(9) > 0);
+        for (int h = 1; h <= 60; h++) {
+            int hours = h;
+            MountainPost now = Posts.inTheMidst(12);
+            MountainPost later = Posts.inTheMidst(12);
+            later.pass(hours);
+            for (int l = h % 3; l < 60; l += 3) {
+                int letter = l;
+                Check.due("foresee(" + letter + ", " + hours + ")", later.letter(letter, 3),
+                    () -> now.foresee(letter, hours));
+            }
+        }
     }
 
     private static void foreseeingChangesNothing() {
@@ -177,6 +203,19 @@ final class AheadEdgesTest {
         Check.due("no way from there: arrives(1)", -1, () -> p.arrives(1));
         p.pass(100);
         Check.due("still not: arrives(0)", -1, () -> p.arrives(0));
+    }
+
+    private static void arrivalIsWhatWillBe() {
+        Check.sentence("Returns the hour (its number) in which it will come or be back, if nothing else is done");
+        MountainPost p = Posts.inTheMidst(12);
+        MountainPost later = Posts.inTheMidst(12);
+        for (int i = 0; i < 3; i++) {
+            later.pass(100);
+        }
+        for (int l = 0; l < 60; l++) {
+            int letter = l;
+            Check.due("arrives(" + letter + ")", later.letter(letter, 9), () -> p.arrives(letter));
+        }
     }
 
     private static void arrivingChangesNothing() {
@@ -318,6 +357,26 @@ final class AheadEdgesTest {
         Check.due("without letters: advise(50)", -1, () -> r.advise(50));
     }
 
+    private static void adviceIsWhatWouldBe() {
+        Check.sentence("Looks for the road with which .. the most letters in all .. would come in so many hours");
+        MountainPost p = Posts.inTheMidst(7);
+        for (int h = 1; h <= 50; h++) {
+            int hours = h;
+            int due = -1;
+            int most = Posts.inTheMidst(7).pass(hours);
+            for (int road = 0; road < 15; road++) {
+                MountainPost other = Posts.inTheMidst(7);
+                other.addMule(road, 6, false);
+                int come = other.pass(hours);
+                if (come > most) {
+                    most = come;
+                    due = road;
+                }
+            }
+            Check.due("advise(" + hours + ")", due, () -> p.advise(hours));
+        }
+    }
+
     private static void advisingChangesNothing() {
         Check.sentence("Returns this road (nothing is changed)");
         MountainPost p = recalledAndPosted();
@@ -422,62 +481,63 @@ final class AheadEdgesTest {
 
     private static void theDigestWrapsAround() {
         Check.sentence("d becomes d * 31 + x, which wraps around as a 64-bit integer");
-        MountainPost p = new MountainPost();
-        Check.due("ten numbers do not wrap around", due(p), p::digest);
-        p.pass(7);
-        Check.due("after some hours", due(p), p::digest);
-        for (int s = 0; s < 10; s++) {
-            p.addStation(400 * s);
-            Check.due("with stations: " + (s + 1), due(p), p::digest);
+        digestIsDue("without stations, where ten numbers do not wrap around", MountainPost::new);
+        for (int s = 1; s <= 10; s++) {
+            int stations = s;
+            digestIsDue("with stations: " + stations, () -> Posts.level(stations));
         }
     }
 
     private static void theDigestOfAFullLand() {
         Check.sentence("for each of the following numbers x");
-        MountainPost p = Posts.full();
-        p.setFog(4, true);
-        Check.due("at the hour 0", due(p), p::digest);
-        for (int l = 0; l < 60; l += 7) {
-            p.recall(l);
-        }
-        for (int i = 0; i < 10; i++) {
-            p.pass(1 + i * i);
-            Check.due("at the hour " + p.count(0), due(p), p::digest);
-        }
+        digestIsDue("with all that there can be", Posts::full);
+        digestIsDue("in the midst of it", () -> Posts.inTheMidst(12));
+        digestIsDue("with fewer mules", () -> Posts.inTheMidst(7));
+        digestIsDue("in the end", () -> {
+            MountainPost p = Posts.inTheMidst(12);
+            p.pass(100);
+            return p;
+        });
     }
 
-    private static BigInteger digest;
+    /** Makes the same land again and again, as one object does not answer all these questions in 512 calls. */
+    private interface Maker {
+        MountainPost make();
+    }
 
-    /** What digest() is to tell, by what the other calls tell: in whole numbers without a bound, cut to 64 bits. */
-    private static long due(MountainPost p) {
-        digest = BigInteger.valueOf(547);
+    /** Compares digest() with what the other calls tell: in whole numbers without a bound, in the end cut to 64 bits. */
+    private static void digestIsDue(String land, Maker maker) {
+        MountainPost p = maker.make();
+        List<Integer> numbers = new ArrayList<>();
         for (int what = 0; what <= 9; what++) {
-            add(p.count(what));
+            numbers.add(p.count(what));
         }
         for (int s = 0; s < p.count(1); s++) {
             for (int what = 0; what <= 4; what++) {
-                add(p.station(s, what));
+                numbers.add(p.station(s, what));
             }
         }
+        MountainPost q = maker.make();
         for (int r = 0; r < p.count(2); r++) {
             for (int what = 0; what <= 5; what++) {
-                add(p.road(r, what));
+                numbers.add(q.road(r, what));
             }
         }
         for (int m = 0; m < p.count(3); m++) {
             for (int what = 0; what <= 5; what++) {
-                add(p.mule(m, what));
+                numbers.add(q.mule(m, what));
             }
         }
         for (int l = 0; l < p.count(4); l++) {
+            MountainPost ofLetters = maker.make();
             for (int what = 0; what <= 10; what++) {
-                add(p.letter(l, what));
+                numbers.add(ofLetters.letter(l, what));
             }
         }
-        return digest.longValue();
-    }
-
-    private static void add(int x) {
-        digest = digest.multiply(BigInteger.valueOf(31)).add(BigInteger.valueOf(x));
+        BigInteger due = BigInteger.valueOf(547);
+        for (int number : numbers) {
+            due = due.multiply(BigInteger.valueOf(31)).add(BigInteger.valueOf(number));
+        }
+        Check.due("digest() of one " + land, due.longValue(), () -> maker.make().digest());
     }
 }

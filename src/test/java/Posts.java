@@ -52,19 +52,43 @@ final class Posts {
 
     /** As much of everything as there can be: 10 stations, 15 roads, 12 mules, 60 letters. */
     static MountainPost full() {
+        return busy(12);
+    }
+
+    /** A ring of ten roads, with five across; the mules are on the ring; half of the letters are answers to others. */
+    static MountainPost busy(int mules) {
         MountainPost p = new MountainPost();
         for (int s = 0; s < 10; s++) {
-            p.addStation(s * 37 % 10 * 400);
+            p.addStation(s * 7 % 10 * 150);
         }
         for (int r = 0; r < 15; r++) {
-            p.build(r % 10, (r * 3 + 1) % 10, 1 + r % 4);
-            p.setSight(r % 10, (r + 1 + r / 10) % 10, true);
+            p.build(r % 10, (r < 10 ? r + 1 : r + 5) % 10, r < 10 ? 1 + r % 4 : 9);
         }
-        for (int m = 0; m < 12; m++) {
-            p.addMule(m, 1 + m % 6, m % 2 == 0);
+        for (int m = 0; m < mules; m++) {
+            p.addMule(m % 10, 1 + m % 6, m >= 10);
+        }
+        for (int s = 0; s < 10; s++) {
+            p.setSight(s, (s + 3) % 10, true);
         }
         for (int l = 0; l < 60; l++) {
-            p.post(l % 10, (l + 1 + l / 10) % 10, l * 7 % 10);
+            int one = l % 10;
+            int other = (l + 1 + l % 30 / 10 * 2) % 10;
+            p.post(l < 30 ? one : other, l < 30 ? other : one, l * 7 % 10);
+        }
+        return p;
+    }
+
+    /** The same, in the midst of it: letters wait, are with mules, have come, are back, are recalled and have turned. */
+    static MountainPost inTheMidst(int mules) {
+        MountainPost p = busy(mules);
+        p.setFog(2, true);
+        for (int hour = 0; hour < 9; hour++) {
+            for (int l = hour; l < 60; l += 17) {
+                if (p.letter(l, 3) < 2 && p.letter(l, 6) == 0) {
+                    p.recall(l);
+                }
+            }
+            p.pass(1);
         }
         return p;
     }

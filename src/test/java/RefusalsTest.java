@@ -133,10 +133,8 @@ final class RefusalsTest {
         Check.sentence("A method that throws an exception changes nothing.");
         MountainPost p = someTraffic();
         MountainPost twin = someTraffic();
-        for (int hour = 0; hour < 20; hour++) {
-            refuse(refusedCalls(p));
-            sameAsTwin(p, twin, hour);
-        }
+        refuse(refusedCalls(p));
+        sameAsTwin(p, twin);
         Check.due("the next station", 4, () -> p.addStation(0));
         Check.due("the next road", 3, () -> p.build(0, 4, 1));
         Check.due("the next mule", 4, () -> p.addMule(3, 1, false));
@@ -149,17 +147,15 @@ final class RefusalsTest {
         MountainPost twin = Posts.full();
         p.recall(3);
         twin.recall(3);
-        for (int hour = 0; hour < 20; hour++) {
-            List<Refused> calls = refusedCalls(p);
-            calls.add(new Refused("addStation(4000)", () -> p.addStation(4000)));
-            calls.add(new Refused("build(0, 1, 20)", () -> p.build(0, 1, 20)));
-            calls.add(new Refused("addMule(14, 6, true)", () -> p.addMule(14, 6, true)));
-            calls.add(new Refused("post(0, 1, 9)", () -> p.post(0, 1, 9)));
-            calls.add(new Refused("recall(3)", () -> p.recall(3)));
-            calls.add(new Refused("advise(50)", () -> p.advise(50)));
-            refuse(calls);
-            sameAsTwin(p, twin, hour);
-        }
+        List<Refused> calls = refusedCalls(p);
+        calls.add(new Refused("addStation(4000)", () -> p.addStation(4000)));
+        calls.add(new Refused("build(0, 1, 20)", () -> p.build(0, 1, 20)));
+        calls.add(new Refused("addMule(14, 6, true)", () -> p.addMule(14, 6, true)));
+        calls.add(new Refused("post(0, 1, 9)", () -> p.post(0, 1, 9)));
+        calls.add(new Refused("recall(3)", () -> p.recall(3)));
+        calls.add(new Refused("advise(50)", () -> p.advise(50)));
+        refuse(calls);
+        sameAsTwin(p, twin);
     }
 
     /** Letters that wait, are with mules, and are recalled; roads with mules and one without. */
@@ -224,7 +220,7 @@ final class RefusalsTest {
             calls.add(new Refused("foresee(" + letter + ", 1)", () -> p.foresee(letter, 1)));
             calls.add(new Refused("arrives(" + letter + ")", () -> p.arrives(letter)));
         }
-        for (int letter = 0; letter < p.count(4); letter++) {
+        for (int letter = 0; letter < 4; letter++) {
             int ended = letter;
             if (p.letter(ended, 3) >= 2 || p.letter(ended, 6) == 1) {
                 calls.add(new Refused("recall(" + ended + ")", () -> p.recall(ended)));
@@ -249,22 +245,27 @@ final class RefusalsTest {
         }
     }
 
-    /** Compares all that both tell, also of ways, fires and what is ahead; then an hour goes by for both. */
-    private static void sameAsTwin(MountainPost p, MountainPost twin, int hour) {
-        Check.due("digest() at the hour " + hour, twin.digest(), p::digest);
-        Check.due("ways and fires at the hour " + hour, waysAndFires(twin), () -> waysAndFires(p));
-        Check.due("what is ahead at the hour " + hour, ahead(twin), () -> ahead(p));
-        Check.due("mean() at the hour " + hour, twin.mean(), p::mean);
-        int come = twin.pass(1);
-        Check.due("pass(1) at the hour " + hour, come, () -> p.pass(1));
+    /** Compares what both tell, also of ways, fires and what is ahead; then hours go by for both. */
+    private static void sameAsTwin(MountainPost p, MountainPost twin) {
+        Check.due("digest()", twin.digest(), p::digest);
+        Check.due("ways and fires", waysAndFires(twin), () -> waysAndFires(p));
+        Check.due("what is ahead", ahead(twin), () -> ahead(p));
+        Check.due("mean()", twin.mean(), p::mean);
+        for (int hour = 0; hour < 20; hour++) {
+            int come = twin.pass(1);
+            Check.due("pass(1)", come, () -> p.pass(1));
+            Check.due("digest() then", twin.digest(), p::digest);
+        }
     }
 
+    /** Only some of them: an object is used for 512 calls. */
     private static String waysAndFires(MountainPost p) {
         StringBuilder told = new StringBuilder();
-        for (int from = 0; from < p.count(1); from++) {
-            for (int to = 0; to < p.count(1); to++) {
-                told.append(p.way(from, to, 0)).append(' ').append(p.way(from, to, 1)).append(' ');
-                told.append(p.fire(from, to)).append(' ');
+        int stations = p.count(1);
+        for (int from = 0; from < stations; from++) {
+            for (int to = from + 1; to <= from + 2; to++) {
+                told.append(p.way(from, to % stations, 0)).append(' ').append(p.way(to % stations, from, 1)).append(' ');
+                told.append(p.fire(from, to % stations)).append(' ');
             }
         }
         return told.toString();
@@ -272,7 +273,7 @@ final class RefusalsTest {
 
     private static String ahead(MountainPost p) {
         StringBuilder told = new StringBuilder();
-        for (int letter = 0; letter < p.count(4); letter++) {
+        for (int letter = 0; letter < p.count(4); letter += 1 + letter / 7) {
             told.append(p.arrives(letter)).append(' ').append(p.foresee(letter, 9)).append(' ');
         }
         if (p.count(3) < 12) {
@@ -285,7 +286,7 @@ final class RefusalsTest {
         Check.sentence("Nothing is promised beyond the answers and state changes described above");
         MountainPost p = someTraffic();
         MountainPost twin = someTraffic();
-        for (int hour = 0; hour < 20; hour++) {
+        for (int hour = 0; hour < 4; hour++) {
             waysAndFires(p);
             ahead(p);
             p.mean();

@@ -77,6 +77,15 @@ final class WaysEdgesTest {
         wayIs(p, 3, 0, 3, 3);
         wayIs(p, 0, 2, 2, 1);
         wayIs(p, 1, 3, 2, 2);
+        MountainPost q = Posts.level(3);
+        q.build(1, 2, 5);
+        q.build(2, 0, 2);
+        q.build(0, 1, 2);
+        for (int road = 0; road < 3; road++) {
+            q.addMule(road, 1, false);
+        }
+        wayIs(q, 1, 2, 4, 2);
+        wayIs(q, 2, 1, 4, 1);
     }
 
     private static void theLongestWay() {
