@@ -215,9 +215,7 @@ public final class MountainPost {
             throw new IndexOutOfBoundsException("no such letter");
         }
         trial.copyFrom(traffic);
-        for (int h = 0; h < MOST_HOURS_AHEAD && !trial.letters.hasEnded(letter); h++) {
-            trial.letHoursGoBy(1);
-        }
+        trial.letHoursGoBy(MOST_HOURS_AHEAD);
         return trial.letters.hoursEnded.get(letter);
     }
 
@@ -401,18 +399,18 @@ public final class MountainPost {
         }
     }
 
-    // ---- sets of stations, a bit for each: ten stations fit into an int
+    // ---- sets of stations or of roads, a bit for each: fifteen fit into an int
 
-    private static boolean has(int set, int station) {
-        return (set & with(0, station)) != 0;
+    private static boolean has(int set, int number) {
+        return (set >> number & 1) == 1;
     }
 
-    private static int with(int set, int station) {
-        return set | 1 << station;
+    private static int with(int set, int number) {
+        return set | 1 << number;
     }
 
-    private static int without(int set, int station) {
-        return set & ~(1 << station);
+    private static int without(int set, int number) {
+        return set & ~(1 << number);
     }
 
     /** Numbers by an index. An index outside tells 0 and keeps nothing, so that no use of it can fail. */
@@ -484,8 +482,9 @@ public final class MountainPost {
         /** The stations that know of a fire an hour after these knew. */
         int litNext(int known) {
             int lit = known;
+            int senders = known & ~fog;
             for (int s = 0; s < stationCount; s++) {
-                if (has(known, s) && !has(fog, s)) {
+                if (has(senders, s)) {
                     lit |= sights.get(s) & ~fog;
                 }
             }
@@ -789,6 +788,8 @@ public final class MountainPost {
         private final Ways ways = new Ways();
         private final Mules mules = new Mules();
         private final Letters letters = new Letters();
+        /** For each letter the road by which it goes on, if it waits: found once an hour, as all mules ask for it. */
+        private final Row nextRoads = new Row(MOST_LETTERS);
         private int hour;
         private int crosses;
 
@@ -798,25 +799,35 @@ public final class MountainPost {
 
         int putMule(int road, int load, int place) {
             int mule = mules.put(road, load, place);
-            ways.find(land, mules);
+            // Only the first mule of a road makes it count.
+            if (mules.ofRoad(road) == 1) {
+                ways.find(land, mules);
+            }
             return mule;
         }
 
         /** Tells how many letters have come in these hours. */
         int letHoursGoBy(int hours) {
             int before = letters.inState(COME);
+            boolean isStirring = true;
             for (int h = 0; h < hours; h++) {
-                bringMules();
-                spreadFires();
-                sendMules();
+                // Behind an hour in which nothing changes all is as it was: nothing will change in the next ones either.
+                if (isStirring) {
+                    boolean haveMulesMoved = bringMules();
+                    boolean haveFiresChanged = spreadFires();
+                    boolean haveMulesSetOut = sendMules();
+                    isStirring = haveMulesMoved || haveFiresChanged || haveMulesSetOut;
+                }
                 hour++;
             }
             return letters.inState(COME) - before;
         }
 
-        private void bringMules() {
+        private boolean bringMules() {
+            boolean haveMoved = false;
             for (int m = 0; m < mules.number; m++) {
                 if (mules.isUnderWay(m)) {
+                    haveMoved = true;
                     mules.hoursLeft.set(m, mules.hoursLeft.get(m) - 1);
                     mules.hoursWalked.set(m, mules.hoursWalked.get(m) + 1);
                     if (!mules.isUnderWay(m)) {
@@ -824,6 +835,7 @@ public final class MountainPost {
                     }
                 }
             }
+            return haveMoved;
         }
 
         private void unload(int mule) {
@@ -834,25 +846,45 @@ public final class MountainPost {
             }
         }
 
-        private void spreadFires() {
+        private boolean spreadFires() {
+            boolean haveChanged = false;
             for (int l = 0; l < letters.number; l++) {
                 if (letters.isRecalled(l)) {
-                    int known = land.litNext(letters.knowers.get(l));
-                    letters.knowers.set(l, known);
-                    if (letters.states.get(l) == WAITS && letters.turned.get(l) == 0
-                            && has(known, letters.places.get(l))) {
+                    int known = letters.knowers.get(l);
+                    int lit = land.litNext(known);
+                    boolean isMet = letters.states.get(l) == WAITS && letters.turned.get(l) == 0
+                            && has(lit, letters.places.get(l));
+                    letters.knowers.set(l, lit);
+                    if (isMet) {
                         letters.turn(l, hour);
                     }
+                    haveChanged = haveChanged || isMet || lit != known;
                 }
             }
+            return haveChanged;
         }
 
-        private void sendMules() {
+        private boolean sendMules() {
+            boolean haveSetOut = false;
+            int wanted = findNextRoads();
             for (int m = 0; m < mules.number; m++) {
-                if (!mules.isUnderWay(m) && loadOrHearCall(m)) {
+                if (!mules.isUnderWay(m) && has(wanted, mules.roads.get(m)) && loadOrHearCall(m)) {
                     setOut(m);
+                    haveSetOut = true;
                 }
             }
+            return haveSetOut;
+        }
+
+        /** Finds the next road of each letter that waits, and tells the set of these roads. */
+        private int findNextRoads() {
+            int wanted = 0;
+            for (int l = 0; l < letters.number; l++) {
+                int road = letters.states.get(l) == WAITS ? firstRoadOf(l) : NONE;
+                nextRoads.set(l, road);
+                wanted = road == NONE ? wanted : with(wanted, road);
+            }
+            return wanted;
         }
 
         /** Gives a mule its letters; tells whether it has one, or one waits for it at the other end. */
@@ -864,10 +896,11 @@ public final class MountainPost {
             for (int i = 0; i < letters.number; i++) {
                 int l = letters.order.get(i);
                 // A letter that goes by this road waits at one of its two ends: here, or at the other one.
-                if (letters.states.get(l) == WAITS && firstRoadOf(l) == road) {
+                if (nextRoads.get(l) == road) {
                     hasReason = true;
                     if (letters.places.get(l) == here && room > 0) {
                         letters.handTo(l, mule);
+                        nextRoads.set(l, NONE);
                         room--;
                     }
                 }
@@ -885,19 +918,22 @@ public final class MountainPost {
             int there = land.otherEnd(road, here);
             mules.places.set(mule, there);
             mules.hoursLeft.set(mule, land.hoursBetween(road, here, there));
-            for (int l = 0; l < letters.number; l++) {
-                if (letters.isWith(l, mule)) {
-                    crosses += crossesOf(l, mule);
-                }
+            // Only where it is not alone can letters cross.
+            if (mules.underWayOn(road) > 1) {
+                crosses += crossesOf(mule);
             }
         }
 
-        private int crossesOf(int letter, int mule) {
+        private int crossesOf(int mule) {
             int met = 0;
             for (int l = 0; l < letters.number; l++) {
-                if (letters.states.get(l) == WITH_MULE && letters.areAnswers(l, letter)
-                        && mules.areOpposed(letters.carriers.get(l), mule)) {
-                    met++;
+                if (letters.isWith(l, mule)) {
+                    for (int k = 0; k < letters.number; k++) {
+                        if (letters.states.get(k) == WITH_MULE && letters.areAnswers(k, l)
+                                && mules.areOpposed(letters.carriers.get(k), mule)) {
+                            met++;
+                        }
+                    }
                 }
             }
             return met;

@@ -43,7 +43,7 @@ final class ManyRunsTest {
             int height = random.nextInt(random.nextBoolean() ? 4001 : 900);
             same("addStation", () -> post.addStation(height), () -> reference.addStation(height));
         }
-        int density = 1 + random.nextInt(3);
+        int density = 1 + random.nextInt(6);
         for (int i = 0; i < stations * density; i++) {
             agreesOn(1);
             agreesOn(3);

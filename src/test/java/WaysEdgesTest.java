@@ -143,7 +143,12 @@ final class WaysEdgesTest {
         wayIs(p, 0, 2, -1, -1);
         wayIs(p, 2, 0, -1, -1);
         wayIs(p, 0, 9, -1, -1);
-        wayIs(p, 5, 6, -1, -1);
+        MountainPost q = Posts.level(10);
+        for (int pair = 0; pair < 100; pair++) {
+            if (pair / 10 != pair % 10) {
+                wayIs(q, pair / 10, pair % 10, -1, -1);
+            }
+        }
     }
 
     private static void theSameStation() {
