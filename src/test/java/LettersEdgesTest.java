@@ -28,6 +28,7 @@ final class LettersEdgesTest {
         theHourWhenItCame();
         stationsThatKnow();
         aStationAnHour();
+        firesGoOnWhileAllElseRests();
         fogOverTheOneThatKnows();
         fogOverTheOneThatSeesIt();
         firesForOneThatHasCome();
@@ -379,6 +380,23 @@ final class LettersEdgesTest {
             Check.due("both ways, at the hour " + hour, knownAround, () -> p.letter(2, 10));
             p.pass(1);
         }
+    }
+
+    private static void firesGoOnWhileAllElseRests() {
+        Check.sentence("lets all stations know that it sees");
+        MountainPost p = Posts.level(10);
+        Posts.chainOfSight(p, 10);
+        p.post(0, 9, 0);
+        p.recall(0);
+        p.pass(8);
+        Check.due("behind eight hours at once: letter(0, 10)", 9, () -> p.letter(0, 10));
+        p.pass(100);
+        Check.due("behind a hundred more: letter(0, 10)", 10, () -> p.letter(0, 10));
+        p.post(9, 0, 0);
+        p.pass(100);
+        p.recall(1);
+        p.pass(9);
+        Check.due("a later one: letter(1, 10)", 10, () -> p.letter(1, 10));
     }
 
     private static void fogOverTheOneThatKnows() {

@@ -30,7 +30,7 @@ final class RefusalsTest {
     // ---- the exception that is named first
 
     private static void firstOfAddStation() {
-        Check.sentence("addStation: the one that is named first is thrown: IllegalArgument, IllegalState");
+        Check.sentence("addStation: If several exceptions apply, the one that is named first is thrown.");
         MountainPost p = Posts.level(10);
         for (int height : Check.outside(0, 4000)) {
             Check.wrongArgument("too high or too low, and full: " + height, () -> p.addStation(height));
@@ -39,7 +39,7 @@ final class RefusalsTest {
     }
 
     private static void firstOfSetSight() {
-        Check.sentence("setSight: the one that is named first is thrown: IndexOutOfBounds, IllegalArgument");
+        Check.sentence("setSight: If several exceptions apply, the one that is named first is thrown.");
         MountainPost p = Posts.level(2);
         for (int station : Check.outside(0, 1)) {
             Check.outOfBounds("no station, and the same: " + station, () -> p.setSight(station, station, true));
@@ -48,7 +48,7 @@ final class RefusalsTest {
     }
 
     private static void firstOfBuild() {
-        Check.sentence("build: the one that is named first is thrown: IndexOutOfBounds, IllegalArgument, IllegalState");
+        Check.sentence("build: If several exceptions apply, the one that is named first is thrown.");
         MountainPost p = Posts.level(2);
         Check.outOfBounds("no station, and the same", () -> p.build(2, 2, 1));
         Check.outOfBounds("no station, and too long", () -> p.build(0, 2, 21));
@@ -65,7 +65,7 @@ final class RefusalsTest {
     }
 
     private static void firstOfAddMule() {
-        Check.sentence("addMule: the one that is named first is thrown: IndexOutOfBounds, IllegalArgument, IllegalState");
+        Check.sentence("addMule: If several exceptions apply, the one that is named first is thrown.");
         MountainPost p = Posts.road(1);
         Check.outOfBounds("no road, and a load of 0", () -> p.addMule(1, 0, true));
         Check.outOfBounds("no road, and a load of 7", () -> p.addMule(-1, 7, true));
@@ -80,7 +80,7 @@ final class RefusalsTest {
     }
 
     private static void firstOfPost() {
-        Check.sentence("post: the one that is named first is thrown: IndexOutOfBounds, IllegalArgument, IllegalState");
+        Check.sentence("post: If several exceptions apply, the one that is named first is thrown.");
         MountainPost p = Posts.level(2);
         Check.outOfBounds("no station, and the same", () -> p.post(2, 2, 0));
         Check.outOfBounds("no station, and too urgent", () -> p.post(0, 2, 10));
@@ -95,7 +95,7 @@ final class RefusalsTest {
     }
 
     private static void firstOfRecall() {
-        Check.sentence("recall: the one that is named first is thrown: IndexOutOfBounds, IllegalState");
+        Check.sentence("recall: If several exceptions apply, the one that is named first is thrown.");
         MountainPost p = Posts.level(2);
         p.post(0, 1, 0);
         p.recall(0);
@@ -106,7 +106,7 @@ final class RefusalsTest {
     }
 
     private static void firstOfForesee() {
-        Check.sentence("foresee: the one that is named first is thrown: IndexOutOfBounds, IllegalArgument");
+        Check.sentence("foresee: If several exceptions apply, the one that is named first is thrown.");
         MountainPost p = Posts.level(2);
         p.post(0, 1, 0);
         Check.outOfBounds("no letter, and too few hours", () -> p.foresee(1, -1));
@@ -116,7 +116,7 @@ final class RefusalsTest {
     }
 
     private static void firstOfAdvise() {
-        Check.sentence("advise: the one that is named first is thrown: IllegalArgument, IllegalState");
+        Check.sentence("advise: If several exceptions apply, the one that is named first is thrown.");
         MountainPost p = Posts.road(1);
         for (int m = 0; m < 12; m++) {
             p.addMule(0, 1, false);
@@ -142,7 +142,7 @@ final class RefusalsTest {
     }
 
     private static void refusedCallsOfAFullLandChangeNothing() {
-        Check.sentence("A method that throws an exception changes nothing (full).");
+        Check.sentence("A method that throws an exception changes nothing.");
         MountainPost p = Posts.full();
         MountainPost twin = Posts.full();
         p.recall(3);
