@@ -811,7 +811,7 @@ public final class MountainPost {
             int before = letters.inState(COME);
             boolean isStirring = true;
             for (int h = 0; h < hours; h++) {
-                // Behind an hour in which nothing changes all is as it was: nothing will change in the next ones either.
+                // Behind an hour in which nothing changes all is as it was, and so it stays in the next ones.
                 if (isStirring) {
                     boolean haveMulesMoved = bringMules();
                     boolean haveFiresChanged = spreadFires();

@@ -505,7 +505,7 @@ final class AheadEdgesTest {
         MountainPost make();
     }
 
-    /** Compares digest() with what the other calls tell: in whole numbers without a bound, in the end cut to 64 bits. */
+    /** Compares digest() with what the other calls tell: in numbers without a bound, in the end cut to 64 bits. */
     private static void digestIsDue(String land, Maker maker) {
         MountainPost p = maker.make();
         List<Integer> numbers = new ArrayList<>();

@@ -548,7 +548,7 @@ final class LettersEdgesTest {
         letterIs(p, 0, 0, 3, 0, 3, 0, -1, 1, 1, 0, 8, 3);
     }
 
-    /** At the hour 3 a letter from 0 to 2 waits at 1: the next mule is 20 hours away, the one that brought it is there. */
+    /** At the hour 3 a letter from 0 to 2 waits at 1, with the mule that brought it; the next one is 20 hours away. */
     private static MountainPost waitingAtStation1() {
         MountainPost p = Posts.level(3);
         p.build(0, 1, 2);

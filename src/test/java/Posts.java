@@ -78,7 +78,7 @@ final class Posts {
         return p;
     }
 
-    /** The same, in the midst of it: letters wait, are with mules, have come, are back, are recalled and have turned. */
+    /** The same behind nine hours: letters wait, are with mules, have come, are back, are recalled and have turned. */
     static MountainPost inTheMidst(int mules) {
         MountainPost p = busy(mules);
         p.setFog(2, true);

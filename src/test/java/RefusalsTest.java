@@ -264,7 +264,8 @@ final class RefusalsTest {
         int stations = p.count(1);
         for (int from = 0; from < stations; from++) {
             for (int to = from + 1; to <= from + 2; to++) {
-                told.append(p.way(from, to % stations, 0)).append(' ').append(p.way(to % stations, from, 1)).append(' ');
+                told.append(p.way(from, to % stations, 0)).append(' ');
+                told.append(p.way(to % stations, from, 1)).append(' ');
                 told.append(p.fire(from, to % stations)).append(' ');
             }
         }

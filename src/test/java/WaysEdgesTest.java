@@ -104,7 +104,7 @@ final class WaysEdgesTest {
     }
 
     private static void theSmallestFirstRoad() {
-        Check.sentence("of all with which one of the ways with the fewest hours begins, the one with the smallest number");
+        Check.sentence("with which one of the ways with the fewest hours begins, the one with the smallest number");
         MountainPost p = Posts.level(4);
         p.build(3, 1, 2);
         p.build(2, 0, 1);
