@@ -397,6 +397,15 @@ final class LettersEdgesTest {
         p.recall(1);
         p.pass(9);
         Check.due("a later one: letter(1, 10)", 10, () -> p.letter(1, 10));
+        MountainPost q = Posts.level(5);
+        Posts.chainOfSight(q, 4);
+        q.post(0, 1, 0);
+        q.post(4, 1, 0);
+        q.recall(0);
+        q.recall(1);
+        q.pass(3);
+        Check.due("beside one that no station sees: letter(0, 10)", 4, () -> q.letter(0, 10));
+        Check.due("and this one: letter(1, 10)", 1, () -> q.letter(1, 10));
     }
 
     private static void fogOverTheOneThatKnows() {
