@@ -33,6 +33,8 @@ final class HoursEdgesTest {
         noCrossInTheSameDirection();
         noCrossOnAnotherRoad();
         bothMustBeAnswers();
+        noCrossOfOneThatTurnedWithTheNextOne();
+        crossOfAnswersThatTurned();
         theHourIsOneGreater();
         Check.end();
     }
@@ -484,6 +486,67 @@ final class HoursEdgesTest {
         boolean haveMet = p.count(6) == 2 && p.road(1, 5) == 2;
         p.pass(98);
         return haveMet ? p.count(9) : -1;
+    }
+
+    /** Both go between 0 and 1 at the same time, but came from the same station, whatever their directions are now. */
+    private static void noCrossOfOneThatTurnedWithTheNextOne() {
+        Check.sentence("if each of both came from the station to which the other one is to go");
+        MountainPost p = threeWithSight();
+        p.post(0, 2, 0);
+        p.pass(1);
+        p.recall(0);
+        p.pass(1);
+        p.post(0, 2, 0);
+        p.pass(1);
+        Check.due("letter 0 turned: letter(0, 7)", 1, () -> p.letter(0, 7));
+        Check.due("and goes home with the mule 0: letter(0, 5)", 0, () -> p.letter(0, 5));
+        Check.due("letter 1 comes towards it with the mule 1: letter(1, 5)", 1, () -> p.letter(1, 5));
+        Check.due("both are on their way: road(0, 5)", 2, () -> p.road(0, 5));
+        Check.due("count(9)", 0, () -> p.count(9));
+    }
+
+    /** From 0 to 3 and from 3 to 0, recalled, they pass each other between 1 and 2 a second time: on their way home. */
+    private static void crossOfAnswersThatTurned() {
+        Check.sentence("if each of both came from the station to which the other one is to go");
+        MountainPost p = Posts.level(4);
+        for (int r = 0; r < 3; r++) {
+            p.build(r, r + 1, 2);
+        }
+        p.addMule(0, 1, false);
+        p.addMule(1, 1, false);
+        p.addMule(1, 1, true);
+        p.addMule(2, 1, true);
+        p.post(0, 3, 0);
+        p.post(3, 0, 0);
+        p.pass(3);
+        Check.due("on their way there: count(9)", 1, () -> p.count(9));
+        for (int s = 0; s < 4; s++) {
+            for (int t = s + 1; t < 4; t++) {
+                p.setSight(s, t, true);
+            }
+        }
+        p.recall(0);
+        p.recall(1);
+        p.pass(2);
+        Check.due("letter 0 turned: letter(0, 7)", 1, () -> p.letter(0, 7));
+        Check.due("letter 1 turned: letter(1, 7)", 1, () -> p.letter(1, 7));
+        Check.due("both are with mules: count(6)", 2, () -> p.count(6));
+        Check.due("on their way home: count(9)", 2, () -> p.count(9));
+        p.pass(4);
+        Check.due("count(8)", 2, () -> p.count(8));
+        Check.due("count(9) in the end", 2, () -> p.count(9));
+    }
+
+    /** Two mules at 0 on the road to 1; the one from 1 to 2 is far away; all see each other. */
+    private static MountainPost threeWithSight() {
+        MountainPost p = Posts.level(3);
+        p.build(0, 1, 2);
+        p.build(1, 2, 20);
+        p.addMule(0, 1, false);
+        p.addMule(0, 1, false);
+        p.addMule(1, 1, true);
+        Posts.chainOfSight(p, 3);
+        return p;
     }
 
     // ---- step 4

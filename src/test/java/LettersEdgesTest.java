@@ -39,6 +39,7 @@ final class LettersEdgesTest {
         noTurnOfOneThatHasComeInThisHour();
         onlyOneTurn();
         backWhereItCameFrom();
+        backWhereItCameAgainUnturned();
         turnedAwayFromHome();
         Check.end();
     }
@@ -545,6 +546,21 @@ final class LettersEdgesTest {
         letterIs(p, 0, 1, 2, 0, 3, 1, -1, 1, 1, 0, 0, 1);
         Check.due("the other one goes: letter(1, 3)", 1, () -> p.letter(1, 3));
         Check.due("count(8)", 1, () -> p.count(8));
+    }
+
+    /** A mule on a shorter road sends the letter home, where it waits, not turned: there the recall meets it. */
+    private static void backWhereItCameAgainUnturned() {
+        Check.sentence("and has not turned, it turns; if this is the station from which it came, it is back");
+        MountainPost p = waitingAtStation1();
+        p.build(0, 2, 1);
+        p.addMule(2, 1, true);
+        p.pass(3);
+        Check.due("it waits where it came from: letter(0, 4)", 0, () -> p.letter(0, 4));
+        Check.due("letter(0, 3)", 0, () -> p.letter(0, 3));
+        Check.due("letter(0, 7)", 0, () -> p.letter(0, 7));
+        p.recall(0);
+        p.pass(1);
+        letterIs(p, 0, 0, 2, 0, 3, 0, -1, 1, 1, 0, 6, 1);
     }
 
     private static void turnedAwayFromHome() {

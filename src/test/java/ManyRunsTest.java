@@ -4,16 +4,20 @@ import java.util.Random;
 
 /** Compares the program with the plain reference on many runs of calls: promises 1 to 21, wrong inputs among them. */
 final class ManyRunsTest {
-    private static final int RUNS = 300;
+    private static final int RUNS = 600;
     private static final int CALLS = 120;
+    /** The calls by which letters meet, cross, and are turned on their way: the others only ask. */
+    private static final int[] STIRRING = {2, 8, 9, 10, 10, 12, 13};
 
     private MountainPost post = new MountainPost();
     private ReferencePost reference = new ReferencePost();
     private final Random random;
+    private final boolean isLine;
     private final List<String> calls = new ArrayList<>();
 
     private ManyRunsTest(long seed) {
         random = new Random(seed);
+        isLine = seed % 2 == 1;
     }
 
     public static void main(String[] args) {
@@ -26,14 +30,23 @@ final class ManyRunsTest {
     }
 
     private boolean agrees() {
-        settle();
+        if (isLine) {
+            settleInALine();
+        } else {
+            settle();
+        }
         for (int c = 0; c < CALLS; c++) {
-            if (!agreesOn(random.nextInt(21)) || !same("digest()", post::digest, reference::digest)) {
+            if (!agreesOn(nextKind()) || !same("digest()", post::digest, reference::digest)) {
                 calls.forEach(System.out::println);
                 return false;
             }
         }
         return true;
+    }
+
+    private int nextKind() {
+        boolean isStirring = isLine && random.nextInt(4) > 0;
+        return isStirring ? STIRRING[random.nextInt(STIRRING.length)] : random.nextInt(21);
     }
 
     /** Few stations with many roads, mules and letters between them, so that letters meet, cross and are recalled. */
@@ -49,6 +62,27 @@ final class ManyRunsTest {
             agreesOn(3);
             agreesOn(4);
             agreesOn(9);
+        }
+    }
+
+    /** A line of roads with mules at both ends: letters go far, so that fires meet them on their way. */
+    private void settleInALine() {
+        int stations = 3 + random.nextInt(3);
+        for (int i = 0; i < stations; i++) {
+            int height = random.nextInt(900);
+            same("addStation", () -> post.addStation(height), () -> reference.addStation(height));
+        }
+        for (int i = 0; i + 1 < stations; i++) {
+            int here = i;
+            int length = 1 + random.nextInt(4);
+            same("build", () -> post.build(here, here + 1, length), () -> reference.build(here, here + 1, length));
+            same("setSight", () -> post.setSight(here, here + 1, true), () -> reference.setSight(here, here + 1, true));
+        }
+        for (int i = 0; i < 3 * (stations - 1); i++) {
+            int road = i % (stations - 1);
+            int load = 1 + random.nextInt(3);
+            boolean isAtB = random.nextBoolean();
+            same("addMule", () -> post.addMule(road, load, isAtB), () -> reference.addMule(road, load, isAtB));
         }
     }
 
@@ -124,8 +158,12 @@ final class ManyRunsTest {
             case 8:
             case 9: {
                 int urgency = number(10);
-                return same("post(" + s + ", " + t + ", " + urgency + ")",
-                    () -> post.post(s, t, urgency), () -> reference.post(s, t, urgency));
+                boolean isFar = isLine && random.nextInt(4) > 0;
+                int last = reference.stations.size() - 1;
+                int from = isFar ? (yes ? last : 0) : s;
+                int to = isFar ? last - from : t;
+                return same("post(" + from + ", " + to + ", " + urgency + ")",
+                    () -> post.post(from, to, urgency), () -> reference.post(from, to, urgency));
             }
             case 10:
                 return same("recall(" + letter + ")", () -> post.recall(letter), () -> reference.recall(letter));
@@ -136,7 +174,7 @@ final class ManyRunsTest {
             }
             case 12:
             case 13: {
-                int hours = random.nextInt(4) > 0 ? 1 + random.nextInt(5) : number(101);
+                int hours = random.nextInt(isLine ? 40 : 4) > 0 ? 1 + random.nextInt(isLine ? 2 : 5) : number(101);
                 return same("pass(" + hours + ")", () -> post.pass(hours), () -> reference.pass(hours));
             }
             case 14: {

@@ -6,6 +6,7 @@ final class WaysEdgesTest {
     public static void main(String[] args) {
         aRoadWithoutAMule();
         aRoadWithAMuleOnItsWay();
+        aRoadThatCountsFromNowOn();
         eachInItsDirection();
         theLeastSum();
         theLongestWay();
@@ -48,6 +49,21 @@ final class WaysEdgesTest {
         Check.due("it is on its way: station(0, 2)", 0, () -> p.station(0, 2));
         wayIs(p, 0, 1, 2, 0);
         wayIs(p, 1, 0, 2, 0);
+    }
+
+    private static void aRoadThatCountsFromNowOn() {
+        Check.sentence("A road counts, if there is a mule on it.");
+        MountainPost p = Posts.line(3);
+        p.build(0, 2, 3);
+        p.post(0, 2, 0);
+        wayIs(p, 0, 2, 4, 0);
+        Check.due("by two roads: arrives(0)", 4, () -> p.arrives(0));
+        p.addMule(2, 1, true);
+        wayIs(p, 0, 2, 3, 2);
+        Check.due("by the new mule, which must come first: arrives(0)", 6, () -> p.arrives(0));
+        p.pass(100);
+        Check.due("letter(0, 9)", 6, () -> p.letter(0, 9));
+        Check.due("the others stayed: mule(0, 5)", 0, () -> p.mule(0, 5));
     }
 
     private static void eachInItsDirection() {
